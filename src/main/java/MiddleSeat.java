@@ -212,13 +212,7 @@ public final class MiddleSeat {
             return NONE;
         }
         whole.prepare();
-        if (!whole.findEvenest(moves)) {
-            return NONE;
-        }
-        if (what == 0) {
-            return whole.bestSpread;
-        }
-        return what == 1 ? whole.bestMoves : whole.bestPlan(what - 2);
+        return whole.evenestOf(moves, what);
     }
 
     /** MOST: the sum, or the PLAN of a stretch. */
@@ -1212,22 +1206,18 @@ public final class MiddleSeat {
                 return 0;
             }
             if (worths[place] == NONE) {
-                worths[place] = workOutWorth(stretch, rider, seat, tip);
+                law.facts[0] = has(stretch, seat);
+                law.facts[1] = minutesOf(stretch);
+                law.facts[2] = kind[rider];
+                law.facts[3] = isEnd(seat) ? 1 : 0;
+                law.facts[4] = tip;
+                int worth = law.facts[0] * law.facts[1];
+                if (worthTold()) {
+                    worth = law.workOut(lawFrom[WORTH_LAW], lawTo[WORTH_LAW]);
+                }
+                worths[place] = Math.max(0, Math.min(worth, GREATEST_WORTH));
             }
             return worths[place];
-        }
-
-        private int workOutWorth(int stretch, int rider, int seat, int tip) {
-            if (!worthTold()) {
-                return has(stretch, seat) * minutesOf(stretch);
-            }
-            law.facts[0] = has(stretch, seat);
-            law.facts[1] = minutesOf(stretch);
-            law.facts[2] = kind[rider];
-            law.facts[3] = isEnd(seat) ? 1 : 0;
-            law.facts[4] = tip;
-            int worth = law.workOut(lawFrom[WORTH_LAW], lawTo[WORTH_LAW]);
-            return Math.max(0, Math.min(worth, GREATEST_WORTH));
         }
 
         int seatByRule(int rule, int seat, int stop, int rider) {
@@ -1384,6 +1374,7 @@ public final class MiddleSeat {
         // One beside the RIDERS who never gets anything: what somebody can get is told against him.
         private static final int NOBODY = SEATS;
         private static final int MOST_TIMES = 20;
+        private static final int ROW = 2 + STRETCHES;
 
         private Road land;
         private boolean ready;
@@ -1395,40 +1386,44 @@ public final class MiddleSeat {
         private final int[] chosen = new int[STRETCHES];
         private final int[] best = new int[STRETCHES];
         private final int[] bestTotal = new int[SEATS];
+        private final int[] answer = new int[(MOVES + 1) * ROW];
+        private int answered;
         private int limit;
-        private int knownLimit;
         private int knownAfter;
+        private int bestSpread;
+        private int bestMoves;
         private int bestLeast;
-        int bestSpread;
-        int bestMoves;
 
         void begin(Road fresh) {
             land = fresh;
             ready = false;
-            knownLimit = NONE;
+            answered = 0;
             knownAfter = 0;
+            bestLeast = Integer.MIN_VALUE;
         }
 
-        int bestPlan(int stretch) {
-            return stretch >= 0 && stretch < STRETCHES ? land.planAt(best[stretch]) : NONE;
-        }
-
-        boolean findEvenest(int moves) {
-            if (knownLimit != moves) {
+        /** Of the EVENEST with so many MOVES at most its SPREAD, MOVES, PLANS; searched for once. */
+        int evenestOf(int moves, int what) {
+            if (moves < 0 || moves > MOVES || what < 0 || what >= ROW) {
+                return NONE;
+            }
+            if ((answered >> moves & 1) == 0) {
+                answered |= 1 << moves;
                 System.arraycopy(land.past, 0, total, 0, SEATS);
                 searchEvenest(moves);
-                knownLimit = moves;
+                writeAnswer(moves * ROW);
             }
-            return bestSpread != Integer.MAX_VALUE;
+            return answer[moves * ROW + what];
         }
 
         int greatestLeast() {
-            System.arraycopy(land.past, 0, total, 0, SEATS);
-            bestLeast = Integer.MIN_VALUE;
-            if (land.stretches == 0) {
-                bestLeast = leastTotal();
-            } else {
-                leastFrom(0);
+            if (bestLeast == Integer.MIN_VALUE) {
+                System.arraycopy(land.past, 0, total, 0, SEATS);
+                if (land.stretches == 0) {
+                    bestLeast = leastTotal();
+                } else {
+                    leastFrom(0);
+                }
             }
             return bestLeast;
         }
@@ -1436,7 +1431,6 @@ public final class MiddleSeat {
         int journeysTillEven() {
             if (knownAfter == 0) {
                 knownAfter = countTillEven();
-                knownLimit = NONE;
             }
             return knownAfter;
         }
@@ -1556,6 +1550,16 @@ public final class MiddleSeat {
                 System.arraycopy(total, 0, bestTotal, 0, SEATS);
             } else {
                 evenestFrom(0, 0);
+            }
+        }
+
+        private void writeAnswer(int row) {
+            boolean found = bestSpread != Integer.MAX_VALUE;
+            answer[row] = found ? bestSpread : NONE;
+            answer[row + 1] = found ? bestMoves : NONE;
+            for (int stretch = 0; stretch < STRETCHES; stretch++) {
+                boolean there = found && stretch < land.stretches;
+                answer[row + 2 + stretch] = there ? land.planAt(best[stretch]) : NONE;
             }
         }
 
