@@ -2,6 +2,9 @@
 public final class FaultsTest {
     private static final String TWO = "seats 3 ; rider aa plain dash 1 past 0 ; rider bb small dash 1 past 0 ; ";
 
+    // What comes behind the first wrong token makes no difference.
+    private static final String[] MORE = {" ; fight 3 ;", " % 77777 ; seats", " 1 2 3 ; worth 1 ; x", " bb ; rider aa plain dash 0"};
+
     private FaultsTest() {
     }
 
@@ -17,6 +20,7 @@ public final class FaultsTest {
         journeys();
         shares();
         allStays();
+        oldSigns();
         Due.end();
     }
 
@@ -25,6 +29,11 @@ public final class FaultsTest {
         MiddleSeat x = new MiddleSeat();
         Due.due("road '" + text + "'", Due.road(x, text), kind == 0 ? 0 : kind + 16 * place);
         Due.due("tape behind '" + text + "'", x.count(11), 0);
+        if (kind != 0 && place < text.length()) {
+            for (String more : MORE) {
+                Due.due("road '" + text + more + "'", Due.road(x, text + more), kind + 16 * place);
+            }
+        }
     }
 
     /** Behind TWO: the FAULT is at the last token of the text, which is so long. */
@@ -292,6 +301,26 @@ public final class FaultsTest {
         Due.due("none are there", nobody.count(7), 0);
         Due.due("shares of nobody", nobody.shares(), 0);
         Due.due("they are there", nobody.count(7), 1);
+    }
+
+    /** What stood on the tape, and who was told on an older road, is gone. */
+    private static void oldSigns() {
+        MiddleSeat x = new MiddleSeat();
+        Due.due("a longer number", Due.road(x, "seats 299;"), 4 + 16 * 6);
+        Due.due("a shorter one", Due.road(x, "seats 2"), 1 + 16 * 7);
+        Due.due("a longer word", Due.road(x, "seatsa 2;"), 1);
+        Due.due("a shorter one", Due.road(x, "seats"), 1 + 16 * 5);
+        String told = "seats 2; rider a plain dash 1 past 0; rider b plain dash 1 past 0; rule r 1;";
+        Due.due("told", Due.road(x, told), 0);
+        Due.due("told twice", Due.road(x, told), 0);
+        String one = "seats 2; rider a plain dash 1 past 0;";
+        Due.due("b is told no more", Due.road(x, one + "apart a b"), 2 + 16 * (one.length() + 8));
+        Due.due("and may be told again", Due.road(x, one + "rule b 1; rider r plain dash 1 past 0;"), 0);
+        Due.due("nor for a journey", Due.journey(x, "sit b"), 2 + 16 * 4);
+        Due.due("laws are gone, too", Due.road(x, one + "fight 1; worth 1; gap 0; never a 0;"), 0);
+        Due.due("so they can be told again", Due.road(x, one + "fight 1; worth 2; gap 0; never a 0;"), 0);
+        Due.due("and again", Due.road(x, one), 0);
+        Due.due("nothing of them is left", x.count(9) * 10 + x.plans(), 2);
     }
 
     private static void allStays() {

@@ -92,7 +92,9 @@ public final class PromisesTest {
         x.sit(2, 1);
         x.drive();
         x.see(0, 0, 0, true);
-        x.mark(2, false);
+        for (int mark = 0; mark < 4; mark++) {
+            Due.due("laid", x.mark(mark, false), true);
+        }
         Due.due("again", Due.road(x, "seats 2; rider z small dash 4 past 77;"), 0);
         int[] want = {2, 0, 1, 0, 0, 0, 0, 0, 0, 0, 0, 0};
         for (int what = 0; what < want.length; what++) {
@@ -101,7 +103,9 @@ public final class PromisesTest {
         Due.due("anew: kind", Due.rider(x, 0, 0), 3);
         Due.due("anew: seat", Due.rider(x, 0, 3), -1);
         Due.due("anew: total", Due.rider(x, 0, 4), 77);
-        Due.due("anew: mark", x.mark(2, true), false);
+        for (int mark = 0; mark < 4; mark++) {
+            Due.due("anew: mark " + mark, x.mark(mark, true), false);
+        }
         Due.due("anew: undo", x.undo(), false);
         Due.due("anew: plans", x.plans(), 2);
         Due.due("anew: lawful", x.lawful(0), 1);
@@ -448,6 +452,10 @@ public final class PromisesTest {
         Due.due("rows only", x.pieces(0, -1), -2);
         Due.shares(x, "row 10 0 0 ; row 0 10 1 ; row 0 0 9 ;");
         Due.due("columns only", x.pieces(0, -1), -2);
+        for (String rows : new String[] {"row 9 0 0 ; row 0 10 0 ; row 0 0 10 ;", "row 10 0 0 ; row 0 10 0 ; row 0 0 9 ;"}) {
+            Due.shares(x, rows);
+            Due.due("one too few of " + rows, x.pieces(0, -1), -2);
+        }
         MiddleSeat fewer = Due.on("seats 3; stretch 2 has 1 1 1; rider a plain dash 1 past 0; rider b plain dash 1 past 0;");
         Due.shares(fewer, "row 2 0 0; row 0 2 0;");
         Due.due("fewer riders", fewer.pieces(0, -1), -2);
