@@ -30,9 +30,14 @@ final class Due {
     static int feed(MiddleSeat x, String text) {
         int many = x.count(11);
         for (int from = 0; from < text.length(); from += 24) {
-            many = x.feed(eight(text, from), eight(text, from + 8), eight(text, from + 16));
+            many = feedAt(x, text, from);
         }
         return many;
+    }
+
+    /** One call: the 24 signs of a text from there on. */
+    static int feedAt(MiddleSeat x, String text, int from) {
+        return x.feed(eight(text, from), eight(text, from + 8), eight(text, from + 16));
     }
 
     private static long eight(String text, int from) {
