@@ -468,6 +468,38 @@ final class Model {
         return new int[] {riders == 0 ? -1 : spread(totals), without};
     }
 
+    // ---- pieces
+
+    /** PLANS and their minutes, one behind another; null: the SHARES don't add up to so many minutes. */
+    List<Integer> pieces(int[][] shares, int due) {
+        int[][] left = new int[4][];
+        for (int i = 0; i < 4; i++) {
+            left[i] = shares[i].clone();
+        }
+        for (int i = 0; i < seats; i++) {
+            final int column = i;
+            if (Arrays.stream(left[i]).sum() != due || Arrays.stream(left).mapToInt(row -> row[column]).sum() != due) {
+                return null;
+            }
+        }
+        List<Integer> found = new ArrayList<>();
+        for (int[] plan : allPlans()) {
+            int least = due;
+            for (int r = 0; r < riders; r++) {
+                least = Math.min(least, left[r][plan[r]]);
+            }
+            // What one PLAN has used up stays used up, so going through them once is enough.
+            if (least > 0) {
+                for (int r = 0; r < riders; r++) {
+                    left[r][plan[r]] -= least;
+                }
+                found.add(number(plan));
+                found.add(least);
+            }
+        }
+        return found;
+    }
+
     // ---- toffees
 
     /** The greatest sum for all RIDERS but one (-1: all), with all SEATS but one (-1: all). */
